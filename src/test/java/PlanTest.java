@@ -84,6 +84,11 @@ public final class PlanTest {
         x = Texts.of("house a;house b;door a b;person p in a dead;person q in a;person r in b;person s in a;"
             + "owes p q 19;owes p r 3;");
         check.gives(x, "all 20", x.keeper(), 1);
+        x = Texts.of("house a;house b;person q in a;person p in a dead;person u in b dead;person r in b;person s in b dead;person t in b dead;"
+            + "owes p q 50;owes s u 10;owes t u 10;owes s r 50;owes t r 50;");
+        check.gives(x, "20 for q, twice 10 for r", x.keeper(), 0);
+        x.forgive(0, 1);
+        check.gives(x, "twice 10 for r", x.keeper(), 3);
     }
 
     private static void promise51Lonely() {
@@ -99,6 +104,8 @@ public final class PlanTest {
             + "owes s p 8;owes p q 3;owes s q 2;owes q r 4;owes q s 1;");
         check.gives(x, "due(0): not what a DEAD one is owed", x.due(0), 9);
         check.gives(x, "due(1)", x.due(1), 1);
+        check.gives(Texts.of(FIVE), "due(0) of nothing", Texts.of(FIVE).due(0), 0);
+        check.gives(x, "due(0) of the first", Texts.of(FIVE + "owes t p 4;").due(0), 4);
         check.refused(x, "due(2)", x.due(2), 1);
         check.refused(x, "due(-1)", x.due(-1), 1);
     }
@@ -196,6 +203,9 @@ public final class PlanTest {
         pardon(x, 1, 1, 1, 2);
         pardon(x, 2, 1, 0, 0);
         pardon(x, 0, 1, 0, 0);
+        x = Texts.of("house a;person q in a;person p in a dead;person r in a;owes p q 1;owes p r 1;");
+        pardon(x, 0, 1, 1, 1);
+        pardon(x, 0, 2, 0, 0);
     }
 
     private static void promise58Pair() {
@@ -215,6 +225,10 @@ public final class PlanTest {
         x = Texts.of("house a;person p in a dead;person q in a dead;person r in a dead;"
             + "owes p q 1;owes q p 1;owes q r 2;owes r q 1;");
         check.gives(x, "the most", x.pair(0), 1);
+        check.gives(x, "pair(2)", x.pair(2), 3);
+        x = Texts.of("house a;person p in a dead;person q in a dead;person r in a dead;"
+            + "owes p q 5;owes q p 1;owes q r 4;owes r q 4;");
+        check.gives(x, "together, not one alone", x.pair(0), 1);
         check.gives(x, "pair(1)", x.pair(1), 2);
     }
 
@@ -250,6 +264,8 @@ public final class PlanTest {
         check.refused(x, "none that lives is owed", x.gracious(), 6);
         x = Texts.of(FIVE);
         check.refused(x, "nobody is owed", x.gracious(), 6);
+        x = Texts.of(FIVE + "owes p q 1;owes t p 1;");
+        check.gives(x, "one is enough", x.gracious(), 0);
     }
 
     private static void promise61Deepest() {
@@ -259,6 +275,8 @@ public final class PlanTest {
         check.gives(x, "deepest()", x.deepest(), 4);
         x = Texts.of(FIVE);
         check.refused(x, "nobody owes", x.deepest(), 6);
+        x = Texts.of(FIVE + "owes p q 1;owes t p 1;");
+        check.gives(x, "one is enough", x.deepest(), 0);
     }
 
     private static void promise62Weight() {

@@ -191,6 +191,10 @@ public final class TalesTest {
         check.gives(x, "live(0)", x.live(0), 3);
         check.due("told(3)", x.told(3), 9998);
         lived(x, 2, 5, 0, 0, 0);
+        Texts.tales(x, "night 2;night 1;night 1;");
+        check.gives(x, "live(0)", x.live(0), 3);
+        check.due("told(3)", x.told(3), 9999);
+        lived(x, 2, 1, 0, 0, 0);
     }
 
     private static void promise69Mean() {

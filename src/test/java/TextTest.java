@@ -15,6 +15,7 @@ public final class TextTest {
         promise10FaultsOfNumbersAndItself();
         promise10FaultsOfMany();
         promise10FirstFaultAlongTheText();
+        promise10TextEndsWithin();
         promise11Tales();
         promise11Faults();
         promise11FaultsOfManyAndDeep();
@@ -230,6 +231,25 @@ public final class TextTest {
         land(TWO + "owes p p 12345", 5, 51);
         land(TWO + "owes p q 100 ?", 4, 53);
         land("house a b ?", 2, 8);
+    }
+
+    /** The first n bytes are the text, whatever stands behind them on the tape. */
+    private static void promise10TextEndsWithin() {
+        within("house abcdefghi;", 14, 2, 14);
+        within(TWO + "owes p q 99123;", TWO.length() + 11, 2, TWO.length() + 11);
+        within(TWO + "owes p q 99;?", TWO.length() + 12, 0, -1);
+        within("house a     ;", 9, 2, 9);
+        within("house a;?", 8, 0, -1);
+        within("?", 0, 0, -1);
+    }
+
+    private static void within(String text, int n, int kind, int place) {
+        SorryWalk x = new SorryWalk();
+        Texts.feed(x, text);
+        x.land(n);
+        check.due("status() of " + text, x.status(), kind == 0 ? 0 : 9);
+        check.due("fault(0) of " + text, x.fault(0), kind);
+        check.due("fault(1) of " + text, x.fault(1), place);
     }
 
     private static void promise11Tales() {

@@ -159,6 +159,8 @@ public final class TrayTest {
         x.tray(1, 2, 4);
         x.tray(2, 1, 4);
         check.denied(x, "pour(4..)", x.pour(4, 0, 0, 0, 1), 1);
+        check.denied(x, "pour(.. 4 ..)", x.pour(0, 0, 4, 0, 1), 1);
+        check.denied(x, "pour(-1 ..)", x.pour(-1, 0, 0, 0, 1), 1);
         check.denied(x, "pour(.. -1 ..)", x.pour(0, 0, -1, 0, 1), 1);
         check.denied(x, "pour place below 0, MISSING too", x.pour(0, -1, 3, 0, 1), 1);
         check.denied(x, "pour at below 0, MISSING too", x.pour(3, 0, 0, -1, 1), 1);
