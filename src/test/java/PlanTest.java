@@ -104,10 +104,12 @@ public final class PlanTest {
             + "owes s p 8;owes p q 3;owes s q 2;owes q r 4;owes q s 1;");
         check.gives(x, "due(0): not what a DEAD one is owed", x.due(0), 9);
         check.gives(x, "due(1)", x.due(1), 1);
-        check.gives(Texts.of(FIVE), "due(0) of nothing", Texts.of(FIVE).due(0), 0);
-        check.gives(x, "due(0) of the first", Texts.of(FIVE + "owes t p 4;").due(0), 4);
         check.refused(x, "due(2)", x.due(2), 1);
         check.refused(x, "due(-1)", x.due(-1), 1);
+        x = Texts.of(FIVE + "owes t p 4;");
+        check.gives(x, "what the first is owed", x.due(0), 4);
+        x = Texts.of(FIVE);
+        check.gives(x, "nothing", x.due(0), 0);
     }
 
     private static void promise53Net() {
