@@ -208,6 +208,13 @@ public final class PlanTest {
         x = Texts.of("house a;person q in a;person p in a dead;person r in a;owes p q 1;owes p r 1;");
         pardon(x, 0, 1, 1, 1);
         pardon(x, 0, 2, 0, 0);
+        StringBuilder seven = new StringBuilder("house a;person p in a dead;");
+        for (char c = 'q'; c <= 'w'; c++) {
+            seven.append("person ").append(c).append(" in a keeps;owes p ").append(c).append(" 1;");
+        }
+        x = Texts.of(seven.toString());
+        pardon(x, 0, 1, 7, 254);
+        pardon(x, 0, 20, 7, 254);
     }
 
     private static void promise58Pair() {

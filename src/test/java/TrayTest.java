@@ -145,6 +145,11 @@ public final class TrayTest {
         row(x, 0, 2, 3, 4, 6, 4, 6);
         check.yes(x, "pour(0, 2, 1, 3, 0)", x.pour(0, 2, 1, 3, 0));
         row(x, 1, 0, 6, 4, 6);
+        check.yes(x, "a whole TRAY", x.pour(1, 0, 0, 2, 4));
+        row(x, 0, 2, 3, 0, 6, 4, 6);
+        x.tray(3, 0, 1);
+        check.yes(x, "the one place of a TRAY", x.write(3, 0, 9));
+        row(x, 3, 9);
     }
 
     private static void row(SorryWalk x, int tray, long... want) {
