@@ -44,9 +44,14 @@ final class Check {
         due("status() behind " + call, x.status(), status);
     }
 
+    /** Something was asked, and all answers were as due. */
+    boolean isGood() {
+        return asked > 0 && wrong == 0;
+    }
+
     void end() {
         System.out.println(test + ": " + asked + " answers, " + wrong + " not as due");
-        if (wrong != 0 || asked == 0) {
+        if (!isGood()) {
             System.exit(1);
         }
     }
