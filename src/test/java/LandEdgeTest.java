@@ -108,6 +108,16 @@ public final class LandEdgeTest {
             check.gives(x, "person(0, 0)", x.person(0, 0), 1);
             check.gives(x, "person(0, 1)", x.person(0, 1), 0);
         });
+        cases.edge("14: HOME is another than the first HOUSE, also when all is taken back", check -> {
+            SorryWalk x = Texts.of("house a;house b;house c;person p in c;person q in b dead;");
+            check.gives(x, "person(0, 1)", x.person(0, 1), 2);
+            check.gives(x, "person(1, 1)", x.person(1, 1), 1);
+            x.mark();
+            x.move(0, 1);
+            check.gives(x, "person(0, 1)", x.person(0, 1), 1);
+            x.undo();
+            check.gives(x, "person(0, 1)", x.person(0, 1), 2);
+        });
         cases.edge("14: 0 for what one is not", check -> {
             SorryWalk x = Texts.of("house a;person p in a;");
             for (int what = 0; what < 7; what++) {
@@ -580,6 +590,11 @@ public final class LandEdgeTest {
             check.gives(x, "person(0, 0)", x.person(0, 0), 0);
             check.gives(x, "owed(0, 1)", x.owed(0, 1), 9);
         });
+        cases.edge("DIE: the HEIR is the first PERSON", check -> {
+            SorryWalk x = Texts.of("house a;person q in a;person p in a;person t in a dead;owes t p 7;heir p q;");
+            check.gives(x, "die(1)", x.die(1), 7);
+            check.gives(x, "owed(2, 0)", x.owed(2, 0), 7);
+        });
         cases.edge("DIE: the last living one, to a SORROW of 0", check -> {
             SorryWalk x = Texts.of("house a;person p in a;person q in a dead;owes q p 5;");
             check.gives(x, "die(0)", x.die(0), 0);
@@ -685,6 +700,28 @@ public final class LandEdgeTest {
             check.gives(x, "told(2)", x.told(2), 0);
             check.yes(x, "wall(0, 1, true)", x.wall(0, 1, true));
             check.gives(x, "door(1, 0)", x.door(1, 0), 1);
+        });
+        cases.edge("26: WAYS go through a new DOOR, and not through one walled up", check -> {
+            SorryWalk x = Texts.of("house a;house b;house c;door a b;person p in c dead;person q in a;owes p q 1;");
+            check.refused(x, "way(0, 0)", x.way(0, 0), 6);
+            x.wall(1, 2, true);
+            check.gives(x, "way(0, 0)", x.way(0, 0), 2);
+            x.night(1);
+            check.gives(x, "person(0, 0)", x.person(0, 0), 1);
+            x.wall(0, 1, false);
+            check.refused(x, "way(0, 0)", x.way(0, 0), 6);
+            x.night(1);
+            check.gives(x, "it stays", x.person(0, 0), 1);
+        });
+        cases.edge("24: WAYS mind new SALT, and old no more", check -> {
+            SorryWalk x = Texts.of("house a;house b;house c;door a b;door b c;person p in c dead;person q in a;owes p q 1;");
+            x.salt(0, true);
+            check.refused(x, "way(0, 0)", x.way(0, 0), 6);
+            x.night(1);
+            check.gives(x, "it stays", x.person(0, 0), 2);
+            x.salt(0, false);
+            x.night(2);
+            check.gives(x, "it is there", x.person(0, 0), 0);
         });
         cases.edge("26: 1 for one and itself, ahead of 7", check -> {
             SorryWalk x = Texts.of(land);

@@ -105,6 +105,10 @@ public final class PlanEdgeTest {
             SorryWalk x = Texts.of(FIVE + "owes t s 6;owes t r 5;owes t q 4;");
             check.gives(x, "saint()", x.saint(), 3);
         });
+        cases.edge("49: the first PERSON, though others' deaths lessen it, too", check -> {
+            SorryWalk x = Texts.of(FIVE + "owes t p 6;owes t q 5;owes t s 3;");
+            check.gives(x, "saint()", x.saint(), 0);
+        });
         cases.edge("49: nobody lives, or nobody is there", check -> {
             SorryWalk x = Texts.of("house a;person t in a dead;");
             check.refused(x, "saint()", x.saint(), 6);
@@ -117,6 +121,10 @@ public final class PlanEdgeTest {
         cases.edge("50: no LABOUR at all: the first that does not KEEP", check -> {
             SorryWalk x = Texts.of("house a;person t in a dead;person p in a keeps;person q in a;person r in a;");
             check.gives(x, "keeper()", x.keeper(), 2);
+        });
+        cases.edge("50: the first PERSON", check -> {
+            SorryWalk x = Texts.of(FIVE + "owes t p 9;");
+            check.gives(x, "keeper()", x.keeper(), 0);
         });
         cases.edge("50: all KEEP or are DEAD", check -> {
             SorryWalk x = Texts.of("house a;person t in a dead;person p in a keeps;");
@@ -463,6 +471,10 @@ public final class PlanEdgeTest {
             SorryWalk x = Texts.of(FIVE + "owes t s 5;owes t r 4;owes p r 1;owes t q 4;");
             check.gives(x, "gracious()", x.gracious(), 2);
         });
+        cases.edge("60: the first PERSON", check -> {
+            SorryWalk x = Texts.of(FIVE + "owes t p 5;owes t s 4;");
+            check.gives(x, "gracious()", x.gracious(), 0);
+        });
         cases.edge("60: a DEAD one does not FORGIVE", check -> {
             SorryWalk x = Texts.of(FIVE + "owes p t 99;owes t s 1;");
             check.gives(x, "gracious()", x.gracious(), 3);
@@ -478,6 +490,10 @@ public final class PlanEdgeTest {
         });
         cases.edge("61: 1 is enough, of the last", check -> check.gives(Texts.of(FIVE + "owes t s 1;"), "deepest()",
             Texts.of(FIVE + "owes t s 1;").deepest(), 4));
+        cases.edge("61: the first PERSON", check -> {
+            SorryWalk x = Texts.of(FIVE + "owes p t 5;owes t s 4;");
+            check.gives(x, "deepest()", x.deepest(), 0);
+        });
         cases.edge("61: of several the first, DEAD or living", check -> {
             SorryWalk x = Texts.of(FIVE + "owes t s 5;owes q s 2;owes q p 3;");
             check.gives(x, "deepest()", x.deepest(), 1);
@@ -553,6 +569,12 @@ public final class PlanEdgeTest {
         cases.edge("64: 1 of one who owes nothing", check -> {
             SorryWalk x = Texts.of("house a;person p in a;");
             check.gives(x, "chain()", x.chain(), 1);
+        });
+        cases.edge("64: the first PERSON owes the second, or the second the first", check -> {
+            SorryWalk x = Texts.of("house a;person p in a;person q in a;owes p q 1;");
+            check.gives(x, "chain()", x.chain(), 2);
+            x = Texts.of("house a;person p in a;person q in a;owes q p 1;");
+            check.gives(x, "chain()", x.chain(), 2);
         });
         cases.edge("64: two who owe each other: none twice", check -> {
             SorryWalk x = Texts.of("house a;person p in a;person q in a;owes p q 1;owes q p 1;");
@@ -638,6 +660,10 @@ public final class PlanEdgeTest {
         cases.edge("66: its AIM is with it: nothing keeps it", check -> {
             SorryWalk x = Texts.of(ROW + "person p in c dead;person q in c;owes p q 1;");
             check.gives(x, "all are as good", x.bestSalt(), 0);
+        });
+        cases.edge("66: the AIM is the first PERSON", check -> {
+            SorryWalk x = Texts.of("house a;house b;door a b;person q in b;person p in a dead;owes p q 1;");
+            check.gives(x, "bestSalt()", x.bestSalt(), 1);
         });
         cases.edge("66: from all their AIMS, not from one", check -> {
             SorryWalk x = Texts.of("house a;house b;house c;door b a;door b c;person p in b dead;person q in a;person r in c;person s in b dead;"

@@ -75,6 +75,24 @@ public final class TalesEdgeTest {
             check.gives(x, "live(0)", x.live(0), 30);
             check.gives(x, "told(3)", x.told(3), 270);
         });
+        cases.edge("67: 27 loops with 27 ends", check -> {
+            StringBuilder b = new StringBuilder();
+            for (int k = 0; k < 27; k++) {
+                b.append("loop 3;end;");
+            }
+            SorryWalk x = Texts.of(LAND, b.toString());
+            check.gives(x, "live(0)", x.live(0), 27);
+            livedAs(check, x, 0, 0, 0, 0, 0);
+        });
+        cases.edge("67: 15 loops with a STEP and an end each", check -> {
+            StringBuilder b = new StringBuilder();
+            for (int k = 0; k < 15; k++) {
+                b.append("loop 2;night 1;end;");
+            }
+            SorryWalk x = Texts.of(LAND, b.toString());
+            check.gives(x, "live(0)", x.live(0), 45);
+            check.gives(x, "told(3)", x.told(3), 30);
+        });
         cases.edge("67: all is as it is then, and the TALES stay", check -> {
             SorryWalk x = Texts.of(LAND, "night 9;");
             x.live(0);
@@ -193,6 +211,8 @@ public final class TalesEdgeTest {
         labourTest("1 = 1", "= 1", 1, true);
         labourTest("1 > 1", "> 1", 1, false);
         labourTest("2 > 1", "> 1", 2, true);
+        labourTest("2 < 1", "< 1", 2, false);
+        labourTest("0 > 1", "> 1", 0, false);
         labourTest("2 = 1", "= 1", 2, false);
         labourTest("99 < 9,999", "< 9999", 99, true);
         labourTest("99 = 0099", "= 0099", 99, true);
@@ -364,6 +384,12 @@ public final class TalesEdgeTest {
         draw(19, 2, 1);
         draw(19, 4, 3);
         draw(19, 7, 3);
+        // seed 4: 11,876 + 11,171 are 23,047; by 8 it is 2,880 and 7 are left
+        draw(4, 7, 3);
+        // seed 5: 14,845 + 11,171 are 26,016; by 8 it is 3,252 and nothing is left
+        draw(5, 7, 4);
+        // seed 7,328: 21,756,832 + 11,171 are 21,768,003; the rest by 65,536 is 10,051; by 8 it is 1,256
+        draw(7328, 7, 3);
         cases.edge("draws: s goes on from draw to draw", check -> {
             // seed 0: 11,171, then 33,166,699 + 11,171 = 33,177,870, the rest is 16,654; by 8 they are 1,396 and 2,081
             SorryWalk x = Texts.of("house a;person p in a;person q in a;person r in a;", "any;any;");
@@ -416,6 +442,16 @@ public final class TalesEdgeTest {
             x.live(-1);
             x.mean(3, 5);
             livedAs(check, x, 1, 3, 2, 1, 0);
+        });
+        cases.edge("68: MISSED and what was left are of the latest alone", check -> {
+            SorryWalk x = Texts.of(LAND, ALMOST + "night 1;night 1;night 1;");
+            x.live(0);
+            check.gives(x, "lived(0)", x.lived(0), 98);
+            check.gives(x, "lived(4)", x.lived(4), 1);
+            Texts.tales(x, "night 1;");
+            x.live(0);
+            check.gives(x, "lived(0)", x.lived(0), 0);
+            check.gives(x, "lived(4)", x.lived(4), 0);
         });
         cases.edge("68: of the latest alone, not of all", check -> {
             SorryWalk x = Texts.of(LAND, "night 3;die p;");
@@ -502,6 +538,17 @@ public final class TalesEdgeTest {
             check.yes(x, "mean(0, 2)", x.mean(0, 2));
             check.due("1 and 4", x.top(), 5);
             check.due("bottom()", x.bottom(), 2);
+        });
+        cases.edge("69: from one seed on, by 20 of them", check -> {
+            int sum = 0;
+            for (int seed = 100; seed < 120; seed++) {
+                SorryWalk y = Texts.of(LAND, "any;any;");
+                y.live(seed);
+                sum += y.told(5);
+            }
+            SorryWalk x = Texts.of(LAND, "any;any;");
+            check.yes(x, "mean(100, 20)", x.mean(100, 20));
+            check.due("top() by bottom()", x.top() * 20, sum * x.bottom());
         });
         cases.edge("69: all stays as it is", check -> {
             SorryWalk x = Texts.of(LAND, "any;night 9;salt a;");

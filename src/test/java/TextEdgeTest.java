@@ -421,6 +421,26 @@ public final class TextEdgeTest {
             check.gives(x, "live(0)", x.live(0), 1);
             check.gives(x, "told(3)", x.told(3), 1);
         });
+        cases.edge("11: TALES behind some whose FAULT was within three others", check -> {
+            SorryWalk x = Texts.of(TWO);
+            check.refused(x, "tales", Texts.tales(x, "loop 1;loop 1;loop 1;?"), 9);
+            check.gives(x, "tales", Texts.tales(x, "any;"), 1);
+            check.refused(x, "tales", Texts.tales(x, "loop 1;loop 1;loop 1;?"), 9);
+            check.gives(x, "three again", Texts.tales(x, "loop 1;loop 1;loop 1;end;end;end;"), 3);
+            check.refused(x, "tales", Texts.tales(x, "loop 1;?"), 9);
+            check.refused(x, "an end without a beginning", Texts.tales(x, "end;"), 9);
+        });
+        cases.edge("11: 30 STEPS behind 30 with a FAULT", check -> {
+            SorryWalk x = Texts.of(TWO);
+            check.refused(x, "tales", Texts.tales(x, times("any;", 30) + "?"), 9);
+            check.gives(x, "tales", Texts.tales(x, times("any;", 30)), 30);
+        });
+        cases.edge("10: 7 HOUSES, 8 PERSONS behind as many with a FAULT", check -> {
+            SorryWalk x = new SorryWalk();
+            String full = "house a;house b;house c;house d;house e;house f;house g;" + persons(8).substring(8);
+            check.refused(x, "land", Texts.land(x, full + "?"), 9);
+            check.gives(x, "land", Texts.land(x, full), 8);
+        });
         cases.edge("11: NAMES are of the LAND that is there", check -> {
             SorryWalk x = Texts.of(TWO);
             Texts.land(x, "house c;person r in c;");
@@ -454,6 +474,7 @@ public final class TextEdgeTest {
         badTales("2: no such TEST", "when night 1;end;", 2, 5);
         badTales("2: a TEST with ; for a COMPARES", "when labour a;3;end;", 2, 13);
         badTales("2: a TEST with two COMPARES", "when labour a<=3;end;", 2, 14);
+        badTales("2: a TEST with a STEP's WORD for a COMPARES", "when labour a any;end;", 2, 14);
         badTales("2: a TEST without a NUMBER", "when labour a<;end;", 2, 14);
         badTales("2: forge without to", "forge p q 1;", 2, 8);
         badTales("2: at without in", "when at p a;end;", 2, 10);

@@ -406,6 +406,10 @@ public final class WalkEdgeTest {
             x.wall(0, 2, false);
             check.gives(x, "must(0, 3)", x.must(0, 3), 2);
         });
+        cases.edge("38: the first HOUSE is between", check -> {
+            SorryWalk x = Texts.of("house a;house b;house c;door b a;door a c;person p in b;");
+            check.gives(x, "must(0, 2)", x.must(0, 2), 1);
+        });
         cases.edge("38: 6: no WAY, into SALT or without a DOOR", check -> {
             SorryWalk x = Texts.of("house a;house b salt;house c;door a b;person p in a;");
             check.refused(x, "must(0, 1)", x.must(0, 1), 6);
@@ -444,6 +448,10 @@ public final class WalkEdgeTest {
             check.gives(x, "tours(0, 5)", x.tours(0, 5), 6);
             check.gives(x, "tours(0, 6)", x.tours(0, 6), 7);
             check.gives(x, "tours(0, 99)", x.tours(0, 99), 7);
+        });
+        cases.edge("40: one who stays: 1, in 99 NIGHTS, too", check -> {
+            SorryWalk x = Texts.of(ROW + "person p in a dead;person q in g;owes p q 1;");
+            check.gives(x, "tours(1, 99)", x.tours(1, 99), 1);
         });
         cases.edge("40: a HOUSE twice counts once", check -> {
             SorryWalk x = Texts.of("house a;house b;house c;door a b;door b c;person p in b dead;person q in a;person r in c;owes p q 1;owes p r 1;");
@@ -512,6 +520,13 @@ public final class WalkEdgeTest {
             SorryWalk x = Texts.of(HERE + "1;");
             check.refused(x, "busiest(99)", x.busiest(99), 6);
         });
+        cases.edge("42, 43: asked again they answer the same", check -> {
+            SorryWalk x = Texts.of("house a;house b;door a b;person p in a dead;person q in b;owes p q 1;");
+            for (int k = 0; k < 4; k++) {
+                check.gives(x, "crowd()", x.crowd(), 0);
+                check.gives(x, "busiest(9)", x.busiest(9), 1);
+            }
+        });
         cases.edge("43: the 99th NIGHT counts", check -> {
             SorryWalk x = Texts.of("house b;house a;door a b;person p in a dead;person q in a;person r in b dead;person s in b;"
                 + "owes p q 99;owes p s 1;owes r s 99;");
@@ -570,6 +585,11 @@ public final class WalkEdgeTest {
         cases.edge("46: one of 6 DOORS", check -> {
             SorryWalk x = Texts.of(ROW + "person p in a;");
             check.gives(x, "ways(0, 6)", x.ways(0, 6), 1);
+        });
+        cases.edge("46: to the first HOUSE, and through it", check -> {
+            SorryWalk x = Texts.of("house a;house b;house c;door b a;door a c;person p in b;");
+            check.gives(x, "ways(0, 0)", x.ways(0, 0), 1);
+            check.gives(x, "ways(0, 2)", x.ways(0, 2), 1);
         });
         cases.edge("46: the shortest ones alone", check -> {
             SorryWalk x = Texts.of("house a;house b;house c;door a b;door b c;door a c;person p in a;");
