@@ -181,6 +181,11 @@ public final class FullLandTest {
             check.gives(x, "circle(7)", x.circle(7), 1);
             check.gives(x, "circle(5)", x.circle(5), 0);
         });
+        cases.edge("66: the last is kept from all already", check -> {
+            SorryWalk x = Texts.of(land("aaaaaaaG", "owes o h 4;"));
+            x.wall(5, 6, false);
+            check.gives(x, "all are as good", x.bestSalt(), 0);
+        });
         cases.edge("66: the last HOUSE", check -> {
             SorryWalk x = Texts.of(land("Faaaaaag", "owes h o 4;"));
             check.gives(x, "bestSalt()", x.bestSalt(), 6);
