@@ -10,7 +10,7 @@ public final class ModelTest {
             Model m = someLand();
             SorryWalk x = Texts.of(m.text());
             for (int k = 0; k < 4; k++) {
-                askState(x, m);
+                askState(check, x, m);
                 askWays(x, m);
                 askAhead(x, m);
                 askPlans(x, m);
@@ -58,7 +58,7 @@ public final class ModelTest {
         return m.text().length() <= 900 ? m : someLand();
     }
 
-    private static void askState(SorryWalk x, Model m) {
+    static void askState(Check check, SorryWalk x, Model m) {
         int[] sets = new int[4];
         int couples = 0;
         for (int h = 0; h < m.houses; h++) {
@@ -85,7 +85,7 @@ public final class ModelTest {
                 }
             }
             for (int k = 0; k < 3; k++) {
-                same(x, "heir", x.heir(p, k), k < m.heirs.get(p).size() ? m.heirs.get(p).get(k) : -1);
+                same(check, x, "heir", x.heir(p, k), k < m.heirs.get(p).size() ? m.heirs.get(p).get(k) : -1);
             }
         }
         int[] told = {m.houses, m.persons, couples / 2, m.night, m.said, m.sorrow(), sets[0], sets[1], sets[2], sets[3]};
@@ -95,7 +95,7 @@ public final class ModelTest {
     }
 
     /** An answer, or STATUS 6 where the Model has -1. */
-    private static void same(SorryWalk x, String call, int got, int want) {
+    private static void same(Check check, SorryWalk x, String call, int got, int want) {
         if (want < 0) {
             check.refused(x, call, got, 6);
         } else {
@@ -107,7 +107,7 @@ public final class ModelTest {
         int exposed = 0;
         int crowd = -1;
         for (int p = 0; p < m.persons; p++) {
-            same(x, "aim", x.aim(p), m.ghost(p) ? m.aim(p) : -1);
+            same(check, x, "aim", x.aim(p), m.ghost(p) ? m.aim(p) : -1);
             check.gives(x, "step", x.step(p), m.step(p));
             check.gives(x, "reach", x.reach(p), m.reach(m.at[p]));
             exposed |= m.ghost(p) ? m.reach(m.at[p]) : 0;
@@ -119,9 +119,9 @@ public final class ModelTest {
                     must &= one[0];
                     ways += one[1] == way ? 1 : 0;
                 }
-                same(x, "way", x.way(p, h), way);
-                same(x, "must", x.must(p, h), way < 0 ? -1 : must & ~(1 << h) & ~(1 << m.at[p]));
-                same(x, "ways", x.ways(p, h), way < 0 ? -1 : ways);
+                same(check, x, "way", x.way(p, h), way);
+                same(check, x, "must", x.must(p, h), way < 0 ? -1 : must & ~(1 << h) & ~(1 << m.at[p]));
+                same(check, x, "ways", x.ways(p, h), way < 0 ? -1 : ways);
             }
         }
         check.gives(x, "exposed", x.exposed(), exposed);
@@ -131,10 +131,10 @@ public final class ModelTest {
                 crowd = h;
             }
             check.gives(x, "within", x.within(h, 2), m.ghostsIn(h));
-            same(x, "weddingSet", x.weddingSet(h), m.wedding(h));
-            same(x, "wedding", x.wedding(h), m.wedding(h) < 0 ? -1 : Integer.bitCount(m.wedding(h)));
+            same(check, x, "weddingSet", x.weddingSet(h), m.wedding(h));
+            same(check, x, "wedding", x.wedding(h), m.wedding(h) < 0 ? -1 : Integer.bitCount(m.wedding(h)));
         }
-        same(x, "crowd", x.crowd(), crowd);
+        same(check, x, "crowd", x.crowd(), crowd);
     }
 
     private static void askAhead(SorryWalk x, Model m) {
@@ -156,7 +156,7 @@ public final class ModelTest {
                 visitors |= k <= nights ? then[k].ghostsIn(h) : 0;
                 busy[h] += k >= 1 && k <= nights ? Integer.bitCount(then[k].ghostsIn(h)) : 0;
             }
-            same(x, "quiet", x.quiet(h), quiet);
+            same(check, x, "quiet", x.quiet(h), quiet);
             if (harvest >= 0) {
                 check.gives(x, "harvest", x.harvest(h, labour), harvest);
             }
@@ -168,7 +168,7 @@ public final class ModelTest {
             busiest = busy[h] > (busiest < 0 ? 0 : busy[busiest]) ? h : busiest;
         }
         if (nights > 0) {
-            same(x, "busiest", x.busiest(nights), busiest);
+            same(check, x, "busiest", x.busiest(nights), busiest);
         }
         askPersonsAhead(x, m, then, nights);
     }
@@ -199,7 +199,7 @@ public final class ModelTest {
             }
             for (int q = 0; q < m.persons; q++) {
                 if (p != q) {
-                    same(x, "meets", x.meets(p, q), meets[q]);
+                    same(check, x, "meets", x.meets(p, q), meets[q]);
                 }
             }
         }
@@ -234,15 +234,15 @@ public final class ModelTest {
                 }
             }
         }
-        same(x, "saint", x.saint(), saint);
-        same(x, "keeper", x.keeper(), keeper);
+        same(check, x, "saint", x.saint(), saint);
+        same(check, x, "keeper", x.keeper(), keeper);
         check.gives(x, "chain", x.chain(), m.chain());
-        same(x, "bestSalt", x.bestSalt(), m.bestSalt());
+        same(check, x, "bestSalt", x.bestSalt(), m.bestSalt());
         int house = upTo(m.houses);
         int nights = 1 + upTo(upTo(3) == 0 ? 20 : 4);
         int set = m.pardon(house, nights);
-        same(x, "pardonSet", x.pardonSet(house, nights), set);
-        same(x, "pardon", x.pardon(house, nights), set < 0 ? -1 : Integer.bitCount(set));
+        same(check, x, "pardonSet", x.pardonSet(house, nights), set);
+        same(check, x, "pardon", x.pardon(house, nights), set < 0 ? -1 : Integer.bitCount(set));
     }
 
     private static Model doSomething(SorryWalk x, Model m) {
